@@ -52,6 +52,15 @@ public final class SpaceMendTest {
         rows(due, x, 3, 0, 0);
     }
 
+    private static void mendLooksAtTheFirstByteToo(Due due) {
+        TrackDisk x = new TrackDisk(2, 2);
+        x.write(1, 0, (byte) 3);
+        x.cut(0, 1);
+        x.start();
+        due.is("mend() with the first byte alone not 0", x.mend(), 1);
+        rows(due, x, 1, 1, 1);
+    }
+
     private static void mendLeavesEqualRowsAlone(Due due) {
         TrackDisk x = new TrackDisk(1, 1);
         x.write(0, 0, (byte) 0);
@@ -101,6 +110,7 @@ public final class SpaceMendTest {
         doneWritesUseBoth(due);
         tornWritesUseRow0(due);
         mendLooksAtBytes(due);
+        mendLooksAtTheFirstByteToo(due);
         mendLeavesEqualRowsAlone(due);
         mendLooksWhereTheTrackLies(due);
         wrongPlaces(due);
